@@ -11,7 +11,9 @@ final class ToldTest {
         spotsTooDark(due);
         reach(due);
         sumThenQuotient(due);
+        quotientsRoundedDown(due);
         lightIsBounded(due);
+        zonesApartFromEachOther(due);
         counts(due);
         tellingChangesNothing(due);
         due.close("ToldTest");
@@ -130,6 +132,9 @@ final class ToldTest {
         corner.pass(1);
         int[] fromZero = {128, 15, 4, 0, 0, 0, 15, 15, 4, 0, 0, 0, 4, 4, 4, 0, 0, 0};
         lights(due, corner, fromZero);
+        // no other setting serves as the share of those that are 3 apart
+        corner.set(3, 2);
+        lights(due, corner, fromZero);
     }
 
     private static void lights(Due due, ZonedLight light, int[] want) {
@@ -151,6 +156,33 @@ final class ToldTest {
         due.due("level", light.zone(9, 0), 15);
         due.due("between them", light.zone(8, 2), 1);
         due.due("beside one", light.zone(6, 2), 0);
+    }
+
+    private static void quotientsRoundedDown(Due due) {
+        ZonedLight light = Due.asking("0,0+4x4=17");
+        light.set(0, 256);
+        light.set(1, 15);
+        light.pass(1);
+        due.due("255 / 256", light.zone(1, 2), 0);
+        ZonedLight leak = alone("0,0+4x4=27;4,0+4x4=250");
+        leak.set(5, 37);
+        leak.pass(1);
+        due.due("999 / 1000", leak.zone(0, 6), 0);
+        due.due("9250 / 1000", leak.zone(1, 6), 9);
+        leak.set(5, 4);
+        due.due("1000 / 1000", leak.zone(1, 6), 1);
+    }
+
+    /** What one zone tells has nothing of what was told before. */
+    private static void zonesApartFromEachOther(Due due) {
+        ZonedLight light = threeSpots();
+        light.set(5, 50);
+        light.pass(1);
+        due.due("too bright", light.zone(7, 8), 13);
+        due.due("of another zone", light.zone(8, 8), 0);
+        due.due("too dark", light.zone(7, 7), 2);
+        due.due("of another zone", light.zone(8, 7), 0);
+        due.due("of all", light.count(6), 13);
     }
 
     private static void lightIsBounded(Due due) {

@@ -116,6 +116,11 @@ final class WantedTest {
         wanted(due, "leak is 5 of 5", light, 7, 170);
         light.ask(7, 7, 1);
         wanted(due, "no black", light, 7, 255);
+        light.ask(4, 4, 0);
+        wanted(due, "black at its first spot", light, 7, 170);
+        ZonedLight ends = with("0,0+4x4=255;20,8+4x4=255;1,1+1x1=0;21,9+1x1=0", 180, 9, 1, 0, 3, 50, 5);
+        wanted(due, "first zone", ends, 0, 170);
+        wanted(due, "last zone", ends, 17, 170);
     }
 
     private static void loweredByNumbers(Due due) {

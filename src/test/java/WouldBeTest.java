@@ -6,6 +6,7 @@ final class WouldBeTest {
     public static void main(String[] args) {
         Due due = new Due();
         restsIn(due);
+        gapOfEachZone(due);
         leastStep(due);
         ifRule(due);
         ifRuleWithDead(due);
@@ -49,6 +50,17 @@ final class WouldBeTest {
         Due.write(light, "0,0+24x12=0");
         light.askAll();
         due.due("64 down by 1", light.restsIn(), 64);
+    }
+
+    private static void gapOfEachZone(Due due) {
+        for (int zone = 0; zone < 18; zone++) {
+            ZonedLight light = alone("0,0+1x1=0");
+            light.ask(zone % 6 * 4, zone / 6 * 4, 77);
+            light.set(7, 10);
+            due.due("77 by 10 in zone " + zone, light.restsIn(), 8);
+            due.due("rests not", light.count(10), 0);
+            due.due("77 in 10", light.leastStep(10), 8);
+        }
     }
 
     private static void leastStep(Due due) {
@@ -119,6 +131,7 @@ final class WouldBeTest {
         due.due("the rule stays", light.count(16), 2);
         ZonedLight leaks = alone("4,4+1x1=20");
         leaks.set(5, 50);
+        due.due("peaks and means", leaks.bestRule(), 1);
         rules(due, leaks, new int[][] {{20, 15, 0, 15}, {10, 10, 1, 0}, {1, 19, 1, 0}});
         due.due("peaks and means", leaks.bestRule(), 1);
         // a light of 20 leaks, of 19 not: here the leak puts fewer off than the lack would
