@@ -1,9 +1,11 @@
 import java.util.Random;
 
-/** Compares the class with the plain model in long runs of drawn calls. */
+/** All promises: compares the class with the plain model in long runs of drawn calls. */
 final class ModelTest {
-    private static final int RUNS = 40;
-    private static final int CALLS = 512;
+    private static final int RUNS = 250;
+    private static final int LONGEST_TEXT = 64;
+    /** A step that types a text takes the most calls. */
+    private static final int CALLS_OF_STEP = LONGEST_TEXT + 3;
     private static final String SIGNS = "0123456789,+x=;";
     private static final String[] TEXTS = {
         "0,0+24x12=255", "0,0+24x12=0", "3,2+9x7=120;8,4+4x4=0;9,5+1x1=255", "23,11+24x12=40",
@@ -12,7 +14,7 @@ final class ModelTest {
     };
 
     private final Random random;
-    private final ZonedLight light = new ZonedLight();
+    private final Light light = new Light();
     private final PlainModel model = new PlainModel();
 
     private ModelTest(long seed) {
@@ -23,8 +25,8 @@ final class ModelTest {
         Due due = new Due();
         for (int seed = 1; seed <= RUNS; seed++) {
             ModelTest run = new ModelTest(seed);
-            for (int call = 1; call <= CALLS; call++) {
-                run.step(due, "seed " + seed + ", call " + call + ": ");
+            for (int step = 1; run.light.callsLeft() >= CALLS_OF_STEP; step++) {
+                run.step(due, "seed " + seed + ", step " + step + ": ");
             }
         }
         due.close("ModelTest");
@@ -122,7 +124,7 @@ final class ModelTest {
             int at = random.nextInt(text.length());
             text = text.substring(0, at) + SIGNS.charAt(random.nextInt(15)) + text.substring(at + 1);
         }
-        for (int i = 0; i < text.length(); i++) {
+        for (int i = 0; i < Math.min(LONGEST_TEXT, text.length()); i++) {
             char sign = text.charAt(i);
             due.due(where + "type", light.type(sign), model.type(sign));
         }

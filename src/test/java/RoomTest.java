@@ -1,30 +1,48 @@
 import java.lang.management.ManagementFactory;
 
-/** All calls of a run live in one room, so that no call may make an object. */
+/** All calls of a run live in one room, so that an object is small and no call makes one. */
 final class RoomTest {
-    private static final int CALLS = 512;
+    private static final int OBJECTS = 20;
+    /** Seven screens of 288 spots and what goes with them. */
+    private static final int BYTES_OF_ONE = 16_000;
     /** What the measuring itself may take, far less than one array of spots a call. */
     private static final int FREE_BYTES = 20_000;
 
+    private static final com.sun.management.ThreadMXBean THREADS =
+            (com.sun.management.ThreadMXBean) ManagementFactory.getThreadMXBean();
+
     public static void main(String[] args) {
         Due due = new Due();
-        com.sun.management.ThreadMXBean threads =
-                (com.sun.management.ThreadMXBean) ManagementFactory.getThreadMXBean();
-        threads.getCurrentThreadAllocatedBytes();
-        ZonedLight light = Due.asking("0,0+24x12=9;4,4+9x5=200;0,0+1x1=0");
-        Due.write(light, "0,0+24x12=90;4,4+9x5=250;0,0+1x1=0");
-        long sum = callAll(light, 0);
-        long before = threads.getCurrentThreadAllocatedBytes();
-        for (int call = 0; call < CALLS; call++) {
-            sum += callAll(light, call);
+        Light[] lights = new Light[OBJECTS];
+        bytesSoFar();
+        long before = bytesSoFar();
+        for (int i = 0; i < OBJECTS; i++) {
+            lights[i] = new Light();
         }
-        long made = threads.getCurrentThreadAllocatedBytes() - before;
-        due.due("bytes made by " + CALLS + " rounds of calls: " + made, made < FREE_BYTES ? 1 : 0, 1);
-        due.due("calls answered", sum != 0 ? 1 : 0, 1);
+        long made = bytesSoFar() - before;
+        due.check(OBJECTS + " objects are small, of " + made + " bytes", made < OBJECTS * BYTES_OF_ONE);
+        for (Light light : lights) {
+            light.askAll("0,0+24x12=9;4,4+9x5=200;0,0+1x1=0");
+            light.write("0,0+24x12=90;4,4+9x5=250;0,0+1x1=0");
+        }
+        long sum = callAll(lights[0], 0);
+        before = bytesSoFar();
+        for (Light light : lights) {
+            for (int round = 0; light.callsLeft() > 30; round++) {
+                sum += callAll(light, round);
+            }
+        }
+        made = bytesSoFar() - before;
+        due.check("calls make nothing, but made " + made + " bytes", made < FREE_BYTES);
+        due.check("calls answered", sum != 0);
         due.close("RoomTest");
     }
 
-    private static long callAll(ZonedLight light, int call) {
+    private static long bytesSoFar() {
+        return THREADS.getCurrentThreadAllocatedBytes();
+    }
+
+    private static long callAll(Light light, int call) {
         long sum = light.ask(call % 24, call % 12, call % 256) + light.askAll() + light.move(call % 4);
         sum += light.kill(call % 18, call % 3 == 0) + light.pass(1 + call % 99);
         sum += light.set(call % 8, call % 256) + light.type('1') + light.undo() + light.keep();
