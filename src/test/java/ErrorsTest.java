@@ -1,6 +1,6 @@
 import java.util.List;
 
-/** The terms ERRORS: their order, NONE, and that what is refused changes nothing; nor does what only tells. */
+/** The terms ERRORS: their order, NONE, and that what is refused, or only tells, changes nothing. */
 final class ErrorsTest {
     public static void main(String[] args) {
         Due due = new Due();
@@ -24,7 +24,7 @@ final class ErrorsTest {
     }
 
     private static void orderOfAsk(Due due) {
-        due.terms(2, "Where several errors can apply, the order of the @return line is the order of the checks.");
+        due.terms(2, "Where several errors can apply, the order of the @return line is the order");
         Light light = new Light();
         due.due("ask(24, 0, 256)", light.ask(24, 0, 256), -1);
         due.due("ask(0, 12, -1)", light.ask(0, 12, -1), -1);

@@ -198,8 +198,9 @@ final class HistoryTest {
         due.same("restored", Seen.now(restored), want);
         // the history was full, so that an act drops a state, and there is one less behind its undo
         want.set(want.indexOf("count(11) answered 4"), "count(11) answered 3");
-        for (int act = 0; act < 5; act++) {
+        for (int act = 0; act <= 6; act++) {
             Light undone = new Light();
+            undone.keep();
             rich(undone);
             oneAct(undone, act);
             undone.undo();
@@ -220,6 +221,13 @@ final class HistoryTest {
                 break;
             case 3:
                 light.set(5, 50);
+                break;
+            case 4:
+                light.askAll("7,3+9x9=0");
+                light.clearText();
+                break;
+            case 5:
+                light.restore();
                 break;
             default:
                 light.ask(0, 0, 1);

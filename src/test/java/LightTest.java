@@ -9,6 +9,7 @@ final class LightTest {
         quotientOfPeakAndMean(due);
         quotientByOwnShare(due);
         sumOfShares(due);
+        sumInDeadZone(due);
         threeApart(due);
         lightAtMost(due);
         sameForAllSpots(due);
@@ -94,7 +95,7 @@ final class LightTest {
     }
 
     private static void sumOfShares(Due due) {
-        due.terms(14, "is the sum, over all zones, of their level times their share (the own share for the zone");
+        due.terms(14, "is the sum, over all zones, of their level times their share (the own share");
         Light light = Light.asking("4,4+4x4=15;12,4+4x4=15").with(256, 9, 0, 0, 0);
         light.pass(1);
         due.due("135 and 135 by 256", light.spot(8, 4, 1), 1);
@@ -111,6 +112,22 @@ final class LightTest {
         due.due("20 * (100 + 8 * 30 + 3 * 9) / 256", all.spot(4, 4, 1), 28);
         due.due("20 * (100 + 3 * 30 + 5 * 9) / 256", all.spot(0, 0, 1), 18);
         due.due("20 * (100 + 8 * 30 + 6 * 9) / 256", all.spot(8, 4, 1), 30);
+    }
+
+    private static void sumInDeadZone(Due due) {
+        due.terms(14, "over all zones, of their level times their share");
+        Light light = Light.asking("4,4+4x4=15;0,0+4x4=9").with(256, 30, 9, 0, 1);
+        light.kill(7, true);
+        light.pass(1);
+        // zone 0 has 9 by itself and 16 for the dead one
+        due.due("a dead zone's light by its neighbours", light.spot(4, 4, 1), 15);
+        due.due("what is shown there", light.spot(7, 7, 3), 15);
+        due.due("it shines as asked", light.spot(7, 7, 4), 0);
+        due.due("zone(7, 2)", light.zone(7, 2), 15);
+        due.due("zone(7, 7)", light.zone(7, 7), 0);
+        due.due("zone(7, 0)", light.zone(7, 0), 0);
+        light.kill(8, true);
+        due.due("less by one neighbour", light.spot(4, 4, 1), 13);
     }
 
     private static void threeApart(Due due) {
@@ -203,7 +220,7 @@ final class LightTest {
     }
 
     private static void shownOrLeak(Due due) {
-        due.terms(14, "What is shown by a spot is light * g / 255, or, if that is more, the leak of the light");
+        due.terms(14, "What is shown by a spot is light * g / 255, or, if that is more, the leak");
         Light light = shining(200);
         light.set(5, 50);
         due.due("leak", light.zone(7, 6), 10);

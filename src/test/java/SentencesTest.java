@@ -65,7 +65,7 @@ final class SentencesTest {
         }
     }
 
-    /** The parts of a line that end with a "." or a ";" in no parentheses, but for those without a promise. */
+    /** The parts of a line that end with a "." or ";" in no parentheses, but for those without a promise. */
     private static List<String> clausesOf(String line) {
         List<String> clauses = new ArrayList<>();
         int start = 0;

@@ -75,7 +75,7 @@ final class ToldTest {
     }
 
     private static void spotWhat(Due due) {
-        due.promise(14, "- `what`: 0 for the brightness that is asked, 1 for the light, 2 for what the glass");
+        due.promise(14, "- `what`: 0 for the brightness that is asked, 1 for the light, 2 for what");
         Light light = threeSpots();
         spot(due, light, 4, 4, 200, 0, 0, 0, 1);
         light.pass(1);
@@ -146,7 +146,7 @@ final class ToldTest {
     }
 
     private static void zoneNumbers(Due due) {
-        due.promise(15, "3 for whether it is dead (1, otherwise 0), 4 for the greatest brightness asked in it");
+        due.promise(15, "3 for whether it is dead (1, otherwise 0), 4 for the greatest brightness");
         Light light = threeSpots();
         light.pass(1);
         light.set(5, 50);

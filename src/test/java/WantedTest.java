@@ -21,6 +21,7 @@ final class WantedTest {
         moreThanHalo(due);
         levelAboveZero(due);
         loweredByNumbers(due);
+        loweredBehindRounds(due);
         due.close("WantedTest");
     }
 
@@ -326,5 +327,20 @@ final class WantedTest {
         Light wide = Light.asking("4,4+1x1=50;12,4+1x1=50").with(100, 0, 9, 0, 0, 50, 0);
         wanted(due, "light of 2 apart", wide, 7, 39);
         wanted(due, "less light of 2 apart", wide, 9, 47);
+    }
+
+    private static void loweredBehindRounds(Due due) {
+        due.terms(15, "3. For each zone, by numbers, that has a spot for which 0 is asked");
+        Light light = Light.asking("4,4+1x1=255").with(256, 0, 0, 2, 0, 50, 2);
+        wanted(due, "by its mean", light, 7, 15);
+        light.set(4, 9);
+        wanted(due, "raised to its peak, then lowered", light, 7, 59);
+        light.set(6, 12);
+        wanted(due, "raised to its peak", light, 7, 255);
+        Light dead = Light.asking("4,4+4x4=90").with(256, 30, 0, 0, 9, 50, 2);
+        dead.kill(7, true);
+        // raised to 96 each; then, one after the other, to where their light is less than 60
+        int[] lower = {37, 21, 46, 0, 0, 0, 30, 0, 29, 0, 0, 0, 45, 36, 52, 0, 0, 0};
+        wantedOfAll(due, "raised for a dead one, then lowered", dead, lower);
     }
 }

@@ -166,13 +166,14 @@ final class WouldBeTest {
     }
 
     private static void best(Due due, Light light, int[] off, int[] power, int want) {
+        due.due("bestRule() as the first question", light.bestRule(), want);
         for (int rule = 0; rule < 3; rule++) {
             due.due("off by rule " + rule, light.ifRule(rule, 1), off[rule]);
             due.due("power by rule " + rule, light.ifRule(rule, 0), power[rule]);
         }
         for (int rule = 0; rule < 3; rule++) {
-            due.due("bestRule()", light.bestRule(), want);
             light.set(3, rule);
+            due.due("bestRule() when " + rule + " is set", light.bestRule(), want);
         }
     }
 
@@ -307,7 +308,7 @@ final class WouldBeTest {
     }
 
     private static void dearestWhenAllRests(Due due) {
-        due.promise(22, "Finds the zone whose death would put spots off the most, all together, when all rests");
+        due.promise(22, "Finds the zone whose death would put spots off the most, all together");
         Light light = Light.alone("0,0+4x4=100;20,8+4x4=120");
         due.due("dearest(0)", light.dearest(0), 17);
         due.due("dearest(1)", light.dearest(1), 1920);
